@@ -107,6 +107,21 @@ public final class PromiseTests {
         for (int k = 0; k < told.length; k++) {
             due("2 told " + k, x.told(7, k), told[k]);
         }
+        // A number that was used and given back bears nothing of the one that had it.
+        CorkBreaks y = new CorkBreaks();
+        y.keep();
+        y.bottle(3, 50, 1);
+        y.warm(0);
+        y.sets(0, 0, 0, 1);
+        y.sets(0, 0, 1, 1);
+        y.push(0);
+        y.back();
+        due("2 again", y.bottle(0, 0, 0), 0);
+        int[] fresh = {0, 0, 0, 6, 0, 0, 36, 0};
+        for (int k = 0; k < fresh.length; k++) {
+            due("2 again " + k, y.told(0, k), fresh[k]);
+        }
+        due("2 again", y.layer(0, 0, 0), 12);
     }
 
     private static void promise3() {
@@ -172,6 +187,11 @@ public final class PromiseTests {
         int[] hot = {0, 0, 3, 0, 4, 0};
         for (int k = 0; k < 6; k++) {
             due("4 hot of " + k, x.layer(k, 1, 3), hot[k]);
+        }
+        int[][] crumbly = {{0, 12}, {19, 12}, {20, 11}, {39, 11}, {40, 10}, {79, 9}, {80, 8}, {99, 8}};
+        for (int[] c : crumbly) {
+            x.set(4, 1, c[0]);
+            due("4 crumbly of " + c[0], x.layer(4, 3, 2), c[1]);
         }
         due("4 strength", x.layer(0, 0, 0), 3);
         due("4 hold", x.layer(0, 0, 1), 7);
@@ -336,7 +356,16 @@ public final class PromiseTests {
 
     private static void promise13() {
         CorkBreaks x = new CorkBreaks();
-        Draws d = new Draws(1);
+        due("13 one", x.deal(1), 1);
+        for (int z = 0; z < 20; z++) {
+            dealt(z * 1000003);
+        }
+    }
+
+    private static void dealt(int z) {
+        CorkBreaks x = new CorkBreaks();
+        x.seed(z);
+        Draws d = new Draws(z);
         due("13 bad", x.deal(0), BAD);
         due("13 bad", x.deal(9), BAD);
         due("13 bad", x.deal(-1), BAD);
@@ -458,6 +487,7 @@ public final class PromiseTests {
             due("17 nothing comes", x.tried(0, k + 1, 35, 0), 0);
             due("17 nothing falls", x.tried(0, k + 1, 35, 1), 0);
         }
+        due("17 no force", x.tried(0, 1, 0, 0), 0);
         due("17 nothing changes", x.told(0, 3), 6);
         due("17 nothing changes", x.told(0, 4), 0);
         int[][] bad = {{1, 1, 1, 0}, {-1, 1, 1, 0}, {0, 0, 1, 0}, {0, 7, 1, 0}, {0, 1, -1, 0}, {0, 1, 1000, 0}, {0, 1, 1, 2}, {0, 1, 1, -1}};
@@ -475,6 +505,7 @@ public final class PromiseTests {
         due("18 comes", x.depth(0, 36, 1), 6);
         due("18 nothing comes: the least", x.depth(0, 35, 0), 1);
         due("18 nothing comes", x.depth(0, 35, 1), 0);
+        due("18 no force", x.depth(0, 0, 1), 0);
         // HELD 72 and 15 together at most: whatever the screw holds is torn, so most come by all of it.
         layers(x, 0, 0, 3, 3, 3, 3, 3, 0);
         layers(x, 0, 1, 12, 12, 12, 12, 12, 12);
@@ -495,9 +526,15 @@ public final class PromiseTests {
         layers(x, 2, 1, 2, 0, 0, 0, 0, 0);
         due("18 of several the least", x.depth(2, 2, 0), 3);
         due("18 of several the least", x.depth(2, 2, 1), 6);
+        x.bottle(0, 0, 0);
+        // HELD 48, half 24, 23 together: the more the screw holds, the more are torn.
+        layers(x, 3, 0, 0, 0, 0, 0, 0, 23);
+        layers(x, 3, 1, 0, 0, 0, 0, 24, 24);
+        due("18 tears all", x.depth(3, 48, 0), 6);
+        due("18 tears all", x.tried(3, 6, 48, 1), 18);
         x.push(0);
         due("18 none", x.depth(0, 999, 0), NONE);
-        int[][] bad = {{3, 1, 0}, {-1, 1, 0}, {0, -1, 0}, {0, 1000, 0}, {0, 1, 2}, {0, 1, -1}};
+        int[][] bad = {{4, 1, 0}, {-1, 1, 0}, {0, -1, 0}, {0, 1000, 0}, {0, 1, 2}, {0, 1, -1}};
         for (int[] b : bad) {
             due("18 bad", x.depth(b[0], b[1], b[2]), BAD);
         }
@@ -547,6 +584,7 @@ public final class PromiseTests {
         due("20 hold", x.behind(100, 1), 198);
         due("20 held", x.behind(2, 3), 32);
         due("20 held", x.behind(1, 5), 10);
+        due("20 held of the last", x.behind(0, 7), 18);
         due("20 strength", x.behind(7, 0), 425);
         due("20 nothing changes", x.count(7), 1);
         due("20 nothing changes", x.count(1), 0);
@@ -602,6 +640,7 @@ public final class PromiseTests {
         due("22 the first", x.which(0, 999, 0), 0);
         due("22 of small force", x.which(0, 12, 0), 3);
         due("22 of small force", x.which(0, 18, 0), 3);
+        due("22 of no force", x.which(0, 0, 0), NONE);
         x.push(3);
         due("22 those opened do not count", x.which(0, 18, 0), 5);
         due("22 crumbs", x.which(0, 18, 1), 0);
@@ -786,7 +825,8 @@ public final class PromiseTests {
             "hard 1234 5", "10", "hard s s", "7", "hard s5", "6", "hard 5s", "6", "hard (s", "7", "hard (s))", "8", "hard )", "5",
             "hard s<y<l", "8", "hard s<y=1", "8", "hard s+", "7", "hard s+*y", "7", "hard !", "6", "hard -1", "5", "hard s!y", "6",
             "hard s +", "8", "hard s %y", "7", " hard s ?  ", "8", "hard s\ty", "6", "hard (s<1)<(y<2)>1", "16", "hard ()", "6",
-            "fee hard", "4", "hard hard", "5", "hard s\0", "6", "hard s\u00ff", "6", "hard (s|)", "8", "hardhard", "0", "fee00012", "3"};
+            "fee hard", "4", "hard hard", "5", "hard s\0", "6", "hard s\u00ff", "6", "hard (s|)", "8", "hardhard", "0", "fee00012", "3",
+            "12", "0", "7+7", "0", "(hard s)", "0", "hard z", "5", "hard sz", "5", "finez", "0", "fee az", "4"};
         for (int k = 0; k < faults.length; k += 2) {
             fault(faults[k], Integer.parseInt(faults[k + 1]));
         }
@@ -799,7 +839,7 @@ public final class PromiseTests {
             "0-7/2", "-3", "(0-7)/2", "-3", "5*3/2", "7", "5/2*3", "6", "1<2", "1", "2<1", "0", "2=2", "1", "2>2", "0", "3>2", "1",
             "5&3", "1", "5&0", "0", "0|0", "0", "0|9", "1", "1|0&0", "1", "!1+1", "1", "!0+1", "2", "!(1-1)", "1", "1+1=2&3>2|0", "1",
             "9999*9999*9999", "-1027349969", "0009", "9", "2-3<0", "1", "1<2+5", "1", "(1<2)+5", "6",
-            "9999*9999*9999*9999/0", "0", "!c", "1", "c|y", "0"};
+            "9999*9999*9999*9999/0", "0", "!c", "1", "c|y", "0", "20-3*2", "14", "20-6/2", "17", "2*3-4", "2", "2<2", "0", "0", "0", "5*0+1", "1"};
         for (int k = 0; k < values.length; k += 2) {
             gives(values[k], Integer.parseInt(values[k + 1]));
         }
@@ -814,6 +854,12 @@ public final class PromiseTests {
         due("29 the last that came", x.fine(0), 13);
         longest();
         hardness();
+        CorkBreaks y = new CorkBreaks();
+        due("29 a fault", text(y, "fee (((((((("), -112);
+        due("29 a fault", text(y, "fee !!!!!!!!"), -112);
+        due("29 a fault leaves nothing open", text(y, "fee !!((7))"), 0);
+        due("29 fault of a word", text(y, "fee 7"), 1);
+        due("29 a word at the start needs no blank", text(y, "fee 7"), 2);
     }
 
     private static void longest() {
@@ -843,7 +889,9 @@ public final class PromiseTests {
         due("29 held within 0", x.layer(5, 3, 2), 0);
         x.sets(1, 3, 0, 0);
         due("29 sound of 0", x.layer(1, 3, 2), 6);
-        due("29 hard", text(x, "hard 1"), 1);
+        due("29 hard", text(x, "hard 0"), 1);
+        due("29 0 is a number", x.layer(0, 5, 2), 0);
+        due("29 hard", text(x, "hard 1"), 2);
         due("29 it counts for pulls", x.tried(0, 4, 36, 1), 12);
         due("29 it counts for trees", x.tree(0, 36, 0) > 0 ? 1 : 0, 1);
     }
