@@ -24,10 +24,8 @@ public final class CorkBreaks {
     private final Row[] sheets;
     private final Slot[] slots;
     private final int[] waiting;
-    private final int[] tape;
     private boolean imageKept;
     private int waitingCount;
-    private int tapeSize;
 
     public CorkBreaks() {
         now = new Cellar();
@@ -44,7 +42,6 @@ public final class CorkBreaks {
             slots[k] = new Slot();
         }
         waiting = new int[MOST_WAITING];
-        tape = new int[MOST_TAPE];
     }
 
     // ---- bottles, layers
@@ -393,27 +390,25 @@ public final class CorkBreaks {
     // ---- texts
 
     public int feed(int a, int b, int c) {
-        if (tapeSize + FEED > MOST_TAPE) {
+        if (reader.size + FEED > MOST_TAPE) {
             return FULL;
         }
-        putBytes(a);
-        putBytes(b);
-        putBytes(c);
-        return tapeSize;
+        reader.putBytes(a);
+        reader.putBytes(b);
+        reader.putBytes(c);
+        return reader.size;
     }
 
     public int trim(int n) {
-        if (!within(n, 0, tapeSize)) {
+        if (!within(n, 0, reader.size)) {
             return BAD;
         }
-        tapeSize = n;
+        reader.size = n;
         return n;
     }
 
     public int text() {
-        int size = tapeSize;
-        tapeSize = 0;
-        if (!reader.parse(tape, size)) {
+        if (!reader.parse()) {
             return FAULT_BASE - reader.fault;
         }
         if (now.textCount >= MOST_TEXTS) {
@@ -669,7 +664,7 @@ public final class CorkBreaks {
             case 5:
                 return waitingCount;
             case 6:
-                return tapeSize;
+                return reader.size;
             case 7:
                 return now.z;
             default:
@@ -759,13 +754,6 @@ public final class CorkBreaks {
             }
         }
         return together;
-    }
-
-    private void putBytes(int v) {
-        for (int shift = 24; shift >= 0 && tapeSize < MOST_TAPE; shift -= 8) {
-            tape[tapeSize] = v >>> shift & 255;
-            tapeSize++;
-        }
     }
 
     /** One BOTTLE. */
@@ -1105,7 +1093,7 @@ public final class CorkBreaks {
             stack = new int[operands];
         }
 
-        /** The NAMES of the KEY are a, b, c, as Reader.NAMES has them. */
+        /** a, b, c are what the NAMES of the KEY stand for, in the order in which Reader.takesName numbers them. */
         int gives(int a, int b, int c) {
             int top = -1;
             for (int k = 0; k < steps.length; k++) {
@@ -1151,7 +1139,7 @@ public final class CorkBreaks {
         }
     }
 
-    /** Reads THE TAPE as a TEXT: steps are NUMBERS as they are, NAMES from -1 down, signs from FIRST_SIGN down. */
+    /** THE TAPE, and how it is read as a TEXT: steps are NUMBERS as they are, NAMES from -1 down, signs from FIRST_SIGN down. */
     private static final class Reader {
         static final String SIGNS = "|&<=>+-*/";
         static final int FIRST_SIGN = -10, NOT = -19;
@@ -1160,10 +1148,10 @@ public final class CorkBreaks {
         private static final int TEST = 2, PIECE = 5, MOST_OPEN = 8, MOST_DIGITS = 4;
         private static final int END = 0, LETTERS = 1, DIGITS = 2, SIGN = 3, STUCK = 4;
 
-        final int[] steps;
+        int size;
         int fault;
-        private int[] bytes;
-        private int size;
+        private final int[] bytes;
+        private final int[] steps;
         private int key;
         private int operands;
         private int stepCount;
@@ -1174,14 +1162,19 @@ public final class CorkBreaks {
         private int openNots;
 
         Reader() {
+            bytes = new int[MOST_TAPE];
             steps = new int[MOST_TAPE];
-            bytes = steps;
         }
 
-        /** Whether it is a TEXT; if not, fault has the place. */
-        boolean parse(int[] tape, int tapeSize) {
-            bytes = tape;
-            size = Math.min(tapeSize, tape.length);
+        void putBytes(int v) {
+            for (int shift = 24; shift >= 0 && size < MOST_TAPE; shift -= 8) {
+                bytes[size] = v >>> shift & 255;
+                size++;
+            }
+        }
+
+        /** Uses THE TAPE up: whether it is a TEXT; if not, fault has the place. */
+        boolean parse() {
             operands = 0;
             stepCount = 0;
             openRounds = 0;
@@ -1191,6 +1184,7 @@ public final class CorkBreaks {
             advance();
             boolean good = takesKey() && takesLevel(0) && form == END;
             fault = start;
+            size = 0;
             return good;
         }
 
