@@ -1,70 +1,5 @@
 /** For each promise of the document: ordinary inputs, the edges that it names, and wrong inputs, with answers worked out by hand. */
-public final class PromiseTests {
-    private static final int BAD = -1000000001, NO = -1000000002, FULL = -1000000003, NONE = -1000000005;
-    private static final int NOTHING = -1000000011, KIND = -1000000012, INDEX = -1000000013, SIZE = -1000000014;
-    private static final int MIN = Integer.MIN_VALUE, MAX = Integer.MAX_VALUE;
-    private static int wrong = 0;
-    private static int asked = 0;
-
-    private static void due(String call, int got, int want) {
-        asked++;
-        if (got != want) {
-            wrong++;
-            System.out.println(call + " answered " + got + ", due is " + want);
-        }
-    }
-
-    /** The numbers that draws give, worked out apart from the class. */
-    private static final class Draws {
-        int z;
-
-        Draws(int z) {
-            this.z = z;
-        }
-
-        int next(int by) {
-            z = z * 1103515245 + 12345;
-            return (z >>> 8) % by;
-        }
-    }
-
-    /** Brings a text to the (empty) tape. */
-    private static void put(CorkBreaks x, String text) {
-        byte[] bytes = new byte[(text.length() + 11) / 12 * 12];
-        for (int k = 0; k < text.length(); k++) {
-            bytes[k] = (byte) text.charAt(k);
-        }
-        for (int k = 0; k < bytes.length; k += 12) {
-            due("feed for " + text, x.feed(word(bytes, k), word(bytes, k + 4), word(bytes, k + 8)), k + 12);
-        }
-        due("trim for " + text, x.trim(text.length()), text.length());
-    }
-
-    private static int word(byte[] bytes, int at) {
-        return (bytes[at] & 255) << 24 | (bytes[at + 1] & 255) << 16 | (bytes[at + 2] & 255) << 8 | bytes[at + 3] & 255;
-    }
-
-    private static int text(CorkBreaks x, String text) {
-        put(x, text);
-        int answer = x.text();
-        due("count(6) behind text of " + text, x.count(6), 0);
-        return answer;
-    }
-
-    private static void layers(CorkBreaks x, int bottle, int what, int... v) {
-        for (int k = 0; k < v.length; k++) {
-            due("sets " + bottle + " " + k, Math.min(x.sets(bottle, k, what, v[k]), 0), 0);
-        }
-    }
-
-    private static CorkBreaks ofKinds() {
-        CorkBreaks x = new CorkBreaks();
-        for (int k = 0; k < 6; k++) {
-            x.bottle(k, 10 * k + 5, k % 2);
-        }
-        return x;
-    }
-
+public final class PromiseTests extends Checks {
     private static void promise1() {
         CorkBreaks x = new CorkBreaks();
         int[] counts = {0, 0, 50, 1, 0, 0, 0, 1};
@@ -1029,7 +964,7 @@ public final class PromiseTests {
         due("35 bad", x.reads(0, -1), BAD);
     }
 
-    private static void row(CorkBreaks x, int sheet, int... want) {
+    private static void places(CorkBreaks x, int sheet, int... want) {
         x.lay(4, 2, sheet);
         for (int k = 0; k < want.length; k++) {
             due("36 place " + k + " of " + sheet, x.item(4, k), want[k]);
@@ -1046,18 +981,18 @@ public final class PromiseTests {
             x.mark(0, k, k + 1);
         }
         due("36 copy", x.copy(0, 3, 1, 1, 2), 2);
-        row(x, 1, 0, 4, 5);
+        places(x, 1, 0, 4, 5);
         due("36 onto itself", x.copy(0, 0, 0, 1, 4), 4);
-        row(x, 0, 1, 1, 2, 3, 4);
+        places(x, 0, 1, 1, 2, 3, 4);
         due("36 onto itself", x.copy(0, 1, 0, 0, 4), 4);
-        row(x, 0, 1, 2, 3, 4, 4);
+        places(x, 0, 1, 2, 3, 4, 4);
         due("36 none at the end", x.copy(0, 5, 1, 3, 0), 0);
         int[][] index = {{0, 6, 1, 0, 0}, {0, -1, 1, 0, 0}, {0, 0, 1, 4, 0}, {0, 0, 1, -1, 0}, {0, 0, 1, 0, 4}, {0, 4, 1, 0, 2},
             {0, 0, 1, 2, 2}, {0, 0, 1, 0, -1}, {0, 0, 1, 0, MAX}, {0, MAX, 1, MAX, MAX}, {0, 0, 1, 0, MIN}};
         for (int[] c : index) {
             due("36 index", x.copy(c[0], c[1], c[2], c[3], c[4]), INDEX);
         }
-        row(x, 1, 0, 4, 5);
+        places(x, 1, 0, 4, 5);
         due("36 kind ahead of index", x.copy(0, 9, 2, 0, 1), KIND);
         due("36 kind", x.copy(2, 0, 1, 0, 0), KIND);
         due("36 nothing", x.copy(3, 0, 1, 0, 0), NOTHING);
@@ -1354,9 +1289,6 @@ public final class PromiseTests {
         promise43();
         promise44();
         promise45();
-        System.out.println(asked + " answers, " + wrong + " not as due");
-        if (wrong != 0) {
-            System.exit(1);
-        }
+        ends();
     }
 }
